@@ -18,6 +18,7 @@ public final class PromiseTest {
         p19Put(); p20Fork(); p21Take(); p22Thing(); p23Share();
         p24Sheet(); p25Lose(); p26Lay(); p27Get(); p28Copy(); p29Write(); p30Count(); p31Digest();
         refusalsChangeNothing();
+        asMuchAsCanBe();
         System.out.println(wrong == 0 ? "all promises hold" : wrong + " answers are not as due");
         if (wrong != 0) System.exit(1);
     }
@@ -336,6 +337,58 @@ public final class PromiseTest {
         due("10: 100 and 101", y.looks(2), 1);
         y.set(1, 9999);
         due("10: all orders", y.looks(3), 6);
+        p10Neighbours();
+    }
+
+    /** Spots are bent one side at a time; KEYS by 100 of the stars are 1, 4, 5. */
+    private static void p10Neighbours() {
+        // How far spot 1 is from spot 0 by x, and spot 2 by x, y; behind it the sides and the key.
+        int[][] spots = {
+            {10, 0, 20}, // 100, 400, 500: 1, 4, 5
+            {15, 0, 20}, // 225, 400, 625: 2, 4, 6
+            {5, 0, 20}, // 25, 400, 425: 0, 4, 4
+            {18, 0, 20}, // 324, 400, 724: 3, 4, 7
+            {10, 0, 17}, // 100, 289, 389: 1, 2, 3
+            {10, 4, 18}, // 100, 340, 360: 1, 3, 3
+            {10, 0, 24}, // 100, 576, 676: 1, 5, 6
+            {10, 2, 23}, // 100, 533, 593: 1, 5, 5
+            {10, -6, 20}, // 100, 436, 656: 1, 4, 6
+            {10, -9, 20}, // 100, 481, 761: 1, 4, 7
+            {17, 5, 19}, // 289, 386, 505: 2, 3, 5
+            {18, 7, 20}, // 324, 449, 521: 3, 4, 5
+            {10, 6, 16}, // 100, 292, 272: 1, 2, 2
+            {10, 8, 22}, // 100, 548, 488: 1, 4, 5
+            {14, 10, 23}, // 196, 545, 629: 1, 5, 6
+            {17, 14, 22}}; // 289, 493, 680: 2, 4, 6
+        StarTracker x = with(star(1, 1, 1), star(11, 1, 1), star(1, 21, 1));
+        x.set(0, 100);
+        int near = 0, off = 0;
+        for (int[] d : spots) {
+            x.see(0, 0, 0, 0, 0, 0);
+            x.add(1, 1, 1, 1);
+            x.add(1, 1 + d[0], 1, 1);
+            x.add(1, 1 + d[1], 1 + d[2], 1);
+            boolean all = true;
+            int[] key = {1, 4, 5};
+            for (int k = 0; k < 3; k++) all &= Math.abs(x.key(1, 0, 1, 2, k) - key[k]) <= 1;
+            if (all) near++;
+            else off++;
+            due("10: key " + x.key(1, 0, 1, 2, 0) + ", " + x.key(1, 0, 1, 2, 1) + ", " + x.key(1, 0, 1, 2, 2),
+                x.looks(2), all ? 1 : 0);
+        }
+        due("10: neighbours and others", near > 5 && off > 3 ? 1 : 0, 1);
+        // One number alone differs, by 1 and by 2.
+        due("10: high 6", lookedAt(10, -6, 20), 1);
+        due("10: high 7", lookedAt(10, -9, 20), 0);
+        due("10: low 2", lookedAt(17, 8, 20), 1);
+        due("10: low 3", lookedAt(18, 8, 20), 0);
+        due("10: middle 3", lookedAt(10, -5, 18), 1);
+        due("10: middle 2", lookedAt(10, -7, 15), 0);
+    }
+    private static int lookedAt(int x1, int x2, int y2) {
+        StarTracker x = with(star(1, 1, 1), star(11, 1, 1), star(1, 21, 1), spot(1, 1, 1), spot(1 + x1, 1, 1), spot(1 + x2, 1 + y2, 1));
+        x.set(0, 100);
+        return x.looks(2);
     }
 
     private static void p11Votes() {
@@ -435,6 +488,19 @@ public final class PromiseTest {
         two.set(2, 2);
         due("13: one pair", two.count(2), 1);
         due("13: one pair is too few", two.turn(), 0);
+        StarTracker like = with(star(1, 1, 1), star(11, 1, 1), star(1, 21, 1), star(1, 21, 1));
+        like.see(3, 0, 0, 0, 0, 0);
+        like.set(1, 0);
+        like.set(2, 2);
+        due("13: two pairs", like.count(2), 2);
+        due("13: two pairs do", like.turn(), 1);
+        int[][] flats = {{0, 10, 0, 0, 0, 20}, {0, 0, 10, 20, 0, 0}, {10, 0, 0, 0, 20, 0}};
+        for (int[] f : flats) {
+            StarTracker p = with(star(f[0], f[1], f[2]), star(f[3], f[4], f[5]), star(40, 41, 42));
+            p.see(3, 0, 0, 0, 0, 0);
+            p.set(1, 0);
+            due("13: a by b along one of x, y, z", p.turn(), 1);
+        }
     }
 
     /** The turn by stars twice as long as the spots: places are x by 2, y by 8, z by 4. */
@@ -556,6 +622,28 @@ public final class PromiseTest {
         w.see(6, 0, 1, 0, 0, 0);
         due("17: of like ones the least", w.better(0), 0);
         due("17: most", w.better(1), 6);
+        StarTracker e = with(star(1, 0, 0), star(0, 1, 0), star(0, 0, 1), spot(1, 0, 0), spot(0, 1, 0), spot(5, 4, 4));
+        // Sides of stars are 2.
+        due("17: side", Math.max(e.side(1, 0, 2), e.side(1, 1, 2)), 50);
+        due("17: 48 is within 50", e.better(0), 50);
+        e = with(star(1, 0, 0), star(0, 1, 0), star(0, 0, 1), spot(1, 0, 0), spot(0, 1, 0), spot(0, 4, 6));
+        due("17: side", e.side(1, 0, 2), 53);
+        due("17: 51 is not", e.better(0), 100);
+        e = with(star(1, 0, 0), star(0, 1, 0), star(0, 0, 1), spot(1, 0, 0), spot(0, 1, 0), spot(5, 6, 0));
+        due("17: side", e.side(1, 0, 2), 52);
+        due("17: 50 is", e.better(0), 50);
+        // By 0 one match, by 50 another one: 2 are LEAST.
+        StarTracker sum = with(star(1, 1, 1), star(11, 1, 1), star(1, 21, 1), star(1, 21, 2));
+        sum.see(3, 0, 0, 0, 0, 0);
+        sum.set(2, 2);
+        due("17: both matches count by 50", sum.better(0), 50);
+        due("17: both matches count by 50", sum.better(1), 3);
+        StarTracker again = with(star(1, 1, 1), star(11, 1, 1), star(1, 21, 1));
+        again.see(3, 0, 0, 0, 0, 0);
+        due("17: three", again.better(1), 3);
+        again.back(1);
+        again.add(1, 90, 90, 90);
+        due("17: anew", again.better(1), 0);
         w.set(2, 99);
         due("17: LEAST counts", w.better(1), 0);
     }
@@ -582,6 +670,21 @@ public final class PromiseTest {
         due("18: the odd one", x.spare(1), 4);
         due("18: all spots stay", x.count(1), 5);
         due("18: the others' numbers stay", x.confirmed(3, 0), 2);
+        x = sky();
+        x.see(4, 0, 0, 0, 0, 0);
+        due("18: before", x.spare(1), 3);
+        x.back(1);
+        x.back(1);
+        x.add(1, 90, 90, 90);
+        x.add(1, -90, 90, 91);
+        due("18: anew", x.spare(1), 0);
+        // Sides 100, 401, 501 of spots, 100, 400, 500 of stars.
+        x = with(star(1, 1, 1), star(11, 1, 1), star(1, 21, 1), spot(50, 50, 50), spot(1, 1, 1), spot(11, 1, 1), spot(1, 21, 2));
+        x.set(1, 1);
+        due("18: no more than TOLERANCE", x.spare(1), 3);
+        due("18: no more than TOLERANCE", x.spare(0), 0);
+        x.set(1, 0);
+        due("18: more than TOLERANCE", x.spare(1), 0);
         // Of three spots two are left, and they are no triangle.
         x = sky();
         x.see(3, 0, 0, 0, 0, 0);
@@ -935,6 +1038,21 @@ public final class PromiseTest {
             x.set(1, 77);
             due("31: TOLERANCE is", x.digest() == h ? 1 : 0, 0);
         }
+    }
+
+    /** 12 stars and 8 spots, all triangles looked at, all orders matching. */
+    private static void asMuchAsCanBe() {
+        StarTracker x = new StarTracker();
+        for (int i = 0; i < 12; i++) x.add(0, i % 3, i / 3 % 2, 1 + i / 6);
+        x.see(8, 1, 2, 3, 4, 3);
+        x.set(0, 9999);
+        x.set(1, 9999);
+        due("all: looked at", x.looks(2), 220 * 56);
+        due("all: match", x.looks(3), 220 * 56 * 6);
+        due("all: votes", x.count(4), 220 * 56 * 18);
+        for (int p = 0; p < 8; p++) for (int i = 0; i < 12; i++) due("all: votes of a pair", x.votes(p, i), 21 * 55 * 2);
+        due("all: taken", x.count(2), 8);
+        due("all: digest", x.digest(), digestByCalls(x));
     }
 
     private static void refusalsChangeNothing() {
