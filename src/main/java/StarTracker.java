@@ -588,7 +588,7 @@ public final class StarTracker {
         }
     }
 
-    /** Gets every order of every two triangles that are looked at: its three pairs, and the least tolerance by which it matches. */
+    /** Hears of every order of every two triangles that are looked at: its pairs, and the least tolerance by which it matches. */
     private abstract static class Tally {
         abstract void hear(int first, int second, int third, int need);
     }
@@ -735,14 +735,15 @@ public final class StarTracker {
 
         private void tellOrders(int p, int q, int r, int at, Tally tally) {
             int pq = spotSide(p, q), qr = spotSide(q, r), pr = spotSide(p, r);
+            int p0 = pairOf(p, 0), q0 = pairOf(q, 0), r0 = pairOf(r, 0);
             for (int o = 0; o + 2 < ORDERS.length; o += 3) {
                 int i = starTriangles[at + ORDERS[o]];
                 int j = starTriangles[at + ORDERS[o + 1]];
                 int k = starTriangles[at + ORDERS[o + 2]];
-                int need = Math.abs(pq - starSide(i, j));
-                need = Math.max(need, Math.abs(qr - starSide(j, k)));
-                need = Math.max(need, Math.abs(pr - starSide(i, k)));
-                tally.hear(pairOf(p, i), pairOf(q, j), pairOf(r, k), need);
+                int need = Math.abs(pq - starSides[i * MAX_STARS + j]);
+                need = Math.max(need, Math.abs(qr - starSides[j * MAX_STARS + k]));
+                need = Math.max(need, Math.abs(pr - starSides[i * MAX_STARS + k]));
+                tally.hear(p0 + i, q0 + j, r0 + k, need);
             }
         }
 
