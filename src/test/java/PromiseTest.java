@@ -209,9 +209,9 @@ public final class PromiseTest {
     }
 
     private static void p6Noise() {
-        StarTracker x = with(star(100, -100, 0), star(1, 0, 0));
         boolean clipped = false, lifted = false;
         for (int seed = -300; seed < 300; seed++) {
+            StarTracker x = with(star(100, -100, 0), star(1, 0, 0));
             for (int m = 1; m <= 3; m++) {
                 x.see(2, 0, 0, 0, seed, m);
                 int lots = seed;

@@ -537,6 +537,73 @@ public final class SheetsEdgeTest {
         Edge.due("three spots", x.digest(), emptyTrays(h).longValue());
     }
 
+    @Edge.Says("of SPOTS taken() 0, 1, confirmed() 0, 1, and of STARS votes(the SPOT, it)")
+    static void digestOfSpotsInAnotherOrder() {
+        StarTracker x = Edge.with(Edge.star(1, 1, 1), Edge.star(31, 1, 1), Edge.star(1, 41, 1),
+            Edge.spot(1, 41, 1), Edge.spot(1, 1, 1), Edge.spot(31, 1, 1));
+        BigInteger h = fold(BigInteger.valueOf(17), 3, 3, 3, 3, 3, 200, 0, 0, 1, 1, 1, 1);
+        h = fold(h, 2, 0, 2, 0, 0, 0, 1);
+        h = fold(h, 0, 1, 0, 0, 1, 0, 0);
+        h = fold(h, 1, 2, 1, 0, 0, 1, 0);
+        h = fold(h, 1, 1, 1, -2, -2, -2, 31, 1, 1, -2, -2, -2, 1, 41, 1, 2, 4, 6);
+        h = fold(h, 1, 0, 0, 3, 0, 0);
+        Edge.due("digest", x.digest(), emptyTrays(h).longValue());
+    }
+
+    @Edge.Says("turn(), wrong(), better() 0, 1, spare() 0, 1")
+    static void digestOfWrongOnesAndOfASpare() {
+        // Sides 100, 2600, 2900; the first two taken are in line, but by 300 the last one is taken first.
+        StarTracker x = Edge.with(Edge.star(10, 0, 0), Edge.star(20, 0, 0), Edge.star(0, 50, 0));
+        x.see(3, 0, 0, 0, 0, 0);
+        BigInteger h = fold(BigInteger.valueOf(17), 3, 3, 3, 0, 3, 200, 0, 3, 1, 1, 1, 1);
+        h = fold(h, 0, 0, -1, -1, 1, 0, 0);
+        h = fold(h, 1, 1, -1, -1, 0, 1, 0);
+        h = fold(h, 2, 2, -1, -1, 0, 0, 1);
+        for (int i = 0; i < 2; i++) h = fold(h, Edge.LEAST_INT, Edge.LEAST_INT, Edge.LEAST_INT, -2, -2, -2);
+        h = fold(h, Edge.LEAST_INT, Edge.LEAST_INT, Edge.LEAST_INT, 0, 6, 7);
+        h = fold(h, 0, 7, 300, 3, 0, 0);
+        Edge.due("wrong ones", x.digest(), emptyTrays(h).longValue());
+        // Spot 1 is odd.
+        x = Edge.with(Edge.star(1, 1, 1), Edge.star(31, 1, 1), Edge.star(1, 41, 1),
+            Edge.spot(1, 1, 1), Edge.spot(-90, -90, -90), Edge.spot(31, 1, 1), Edge.spot(1, 41, 1));
+        h = fold(BigInteger.valueOf(17), 3, 4, 3, 3, 3, 200, 0, 0, 1, 4, 1, 1);
+        h = fold(h, 0, 0, 0, 0, 1, 0, 0);
+        h = fold(h, -1, -1, -1, -1, 0, 0, 0);
+        h = fold(h, 1, 1, 1, 0, 0, 1, 0);
+        h = fold(h, 2, 2, 2, 0, 0, 0, 1);
+        h = fold(h, 1, 1, 1, -2, -2, -2, 31, 1, 1, -2, -2, -2, 1, 41, 1, 2, 4, 6);
+        h = fold(h, 1, 0, 0, 3, 1, 3);
+        Edge.due("a spare", x.digest(), emptyTrays(h).longValue());
+    }
+
+    private static StarTracker asked(boolean ahead, Edge.Call change) {
+        StarTracker x = Edge.sky();
+        x.see(7, 2, 1, 0, 8, 1);
+        x.set(Edge.TOLERANCE, 700);
+        x.sheet(0, Edge.BYTES, 3);
+        Edge.layAll(x, 0, Edge.BYTES, -20, 30, -40);
+        for (int n = 0; ahead && n < 2; n++) x.digest();
+        change.on(x);
+        return x;
+    }
+
+    @Edge.Says("h becomes 31 h and each of: count() 0 to 7")
+    static void whatIsAnsweredIsOfWhatIsThereNow() {
+        Edge.Call[] changes = {x -> x.add(0, 20, 30, 40), x -> x.add(1, 20, 30, 40), x -> x.back(0), x -> x.back(1),
+            x -> x.read(0, 0), x -> x.read(1, 0), x -> x.see(4, 0, 0, 0, 0, 0), x -> x.see(0, 0, 0, 0, 0, 0), x -> x.see(7, 2, 1, 0, 9, 3),
+            x -> x.set(0, 9999), x -> x.set(0, 1), x -> x.set(1, 0), x -> x.set(1, 9999), x -> x.set(2, 99), x -> x.set(3, 0)};
+        for (int n = 0; n < changes.length; n++) {
+            StarTracker x = asked(true, changes[n]), y = asked(false, changes[n]);
+            Edge.due("change " + n + ", looks", x.looks(2), y.looks(2));
+            Edge.due("change " + n + ", better", x.better(0), y.better(0));
+            Edge.due("change " + n + ", better", x.better(1), y.better(1));
+            Edge.due("change " + n + ", spare", x.spare(0), y.spare(0));
+            Edge.due("change " + n + ", spare", x.spare(1), y.spare(1));
+            Edge.due("change " + n + ", digest", x.digest(), y.digest());
+            Edge.holds("change " + n + " changes the digest", x.digest() != asked(true, z -> 0).digest());
+        }
+    }
+
     @Edge.Says("of TRAYS and 0 to 3 thing(the TRAY, it, 0 to 3), share(the TRAY, 0, it); as longs that wrap.")
     static void digestOfTraysHasFourThingsOfEach() {
         StarTracker x = Edge.with(Edge.star(3, 4, 0), Edge.spot(1, 2, 2));

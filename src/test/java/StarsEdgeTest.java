@@ -601,6 +601,30 @@ public final class StarsEdgeTest {
         Edge.holds("some become all 0, some nearly", met > 5 && others > 20);
     }
 
+    @Edge.Says("if all are 0 then, z is 1)")
+    static void noiseThatMakesALaterStarAllZero() {
+        int met = 0;
+        for (int seed = 0; seed < 400; seed++) {
+            StarTracker x = new StarTracker();
+            for (int i = 0; i < 8; i++) x.add(0, i % 2, 1 - i % 2, i % 3 - 1);
+            x.see(8, 0, 0, 0, seed, 1);
+            long s = seed;
+            for (int i = 0; i < 8; i++) {
+                int[] d = {i % 2, 1 - i % 2, i % 3 - 1};
+                for (int w = 0; w < 3; w++) {
+                    s = next(s);
+                    d[w] += lots(s, 3) - 1;
+                }
+                if (d[0] == 0 && d[1] == 0 && d[2] == 0) {
+                    d[2] = 1;
+                    met++;
+                }
+                Edge.isAt("seed " + seed, x, 1, i, d);
+            }
+        }
+        Edge.holds("some become all 0", met > 20);
+    }
+
     // ---- promise 7
 
     private static final int[] FIRST = {400, 200, 1, 20}, LOWEST = {1, 0, 1, 0}, HIGHEST = {9999, 9999, 99, 300};

@@ -304,6 +304,19 @@ public final class TraysEdgeTest {
         }
     }
 
+    @Edge.Says("as a float: its bits.")
+    static void shareIsTheNearestFloat() {
+        for (int a = 1; a <= 100; a++)
+            for (int b = 1; b <= 100; b++) {
+                StarTracker x = Edge.with(Edge.star(a, 0, 0), Edge.spot(0, 0, -1), Edge.spot(b, 0, 0), Edge.spot(-b, 100, 0));
+                x.put(2, 0, 0);
+                x.put(2, 1, 1);
+                x.put(2, 1, 2);
+                Edge.due(b + " by " + a, x.share(2, 0, 1), Float.floatToIntBits((float) b / a));
+                Edge.due(-b + " by " + a, x.share(2, 0, 2), Float.floatToIntBits((float) -b / a));
+            }
+    }
+
     @Edge.Says("BAD, no such things: the least int.")
     static void shareRefuses() {
         StarTracker x = both();

@@ -425,6 +425,45 @@ public final class TurnEdgeTest {
         Edge.due("most by 50", x.better(1), 3);
     }
 
+    /** Sides 900, 1600, 2500; as many stars more as told are where star n is, or so much off it by z. */
+    private static StarTracker doubled(int n, int... off) {
+        int[][] d = {{1, 1, 1}, {31, 1, 1}, {1, 41, 1}};
+        StarTracker x = new StarTracker();
+        for (int i = 0; i < 3; i++) x.add(0, d[i][0], d[i][1], d[i][2]);
+        for (int z : off) x.add(0, d[n][0], d[n][1], d[n][2] + z);
+        return x;
+    }
+
+    @Edge.Says("in place of what it is, by which most are CONFIRMED")
+    static void betterCountsAllMatchesUpToATolerance() {
+        // Two votes by 0; a third one by the square of what is told.
+        int[][] due = {{1, 50}, {7, 50}, {8, 100}, {10, 100}, {11, 150}, {14, 200}, {15, 250}};
+        for (int[] d : due) {
+            StarTracker x = doubled(2, 0, d[0]);
+            x.see(3, 0, 0, 0, 0, 0);
+            x.set(Edge.BUCKET, 9999);
+            x.set(Edge.LEAST, 3);
+            x.set(Edge.TOLERANCE, 0);
+            Edge.due("two by 0", x.votes(0, 0), 2);
+            Edge.due("which", x.better(0), d[1]);
+            Edge.due("how many", x.better(1), 3);
+        }
+    }
+
+    @Edge.Says("in place of what it is, by which most are CONFIRMED")
+    static void betterHasVotesOfEachSpot() {
+        // Star n is there twice: its spot has one vote for each, the two others have two, and two are the least.
+        for (int n = 0; n < 3; n++) {
+            StarTracker x = doubled(n, 0);
+            x.see(3, 0, 0, 0, 0, 0);
+            x.set(Edge.LEAST, 2);
+            x.set(Edge.TOLERANCE, 0);
+            Edge.due("two pairs", x.count(2), 2);
+            Edge.due("which", x.better(0), 0);
+            Edge.due("how many", x.better(1), 3);
+        }
+    }
+
     @Edge.Says("BETTER: which TOLERANCE (what = 0), how many are CONFIRMED then (1). BAD.")
     static void betterOfNothing() {
         for (StarTracker x : new StarTracker[] {new StarTracker(), Edge.sky(), Edge.with(Edge.spot(1, 2, 3))}) {
@@ -477,6 +516,56 @@ public final class TurnEdgeTest {
             Edge.due("others than " + odd, x.spare(1), 7);
             Edge.due("confirmed with it", x.count(3), 7);
             Edge.due("it is there still", x.at(1, odd, 2), 77);
+        }
+    }
+
+    @Edge.Says("by which most of the others are CONFIRMED, of like ones the least.")
+    static void spareHasVotesOfEachOther() {
+        for (int n = 0; n < 3; n++) {
+            for (int odd = 0; odd < 4; odd++) {
+                StarTracker x = doubled(n, 0);
+                for (int p = 0, i = 0; p < 4; p++) {
+                    if (p == odd) {
+                        x.add(1, -70, -70, 70);
+                        continue;
+                    }
+                    x.add(1, x.at(0, i, 0), x.at(0, i, 1), x.at(0, i, 2));
+                    i++;
+                }
+                x.set(Edge.LEAST, 2);
+                x.set(Edge.TOLERANCE, 0);
+                Edge.due("which", x.spare(0), odd);
+                Edge.due("how many", x.spare(1), 3);
+            }
+        }
+    }
+
+    @Edge.Says("by which most of the others are CONFIRMED, of like ones the least.")
+    static void spareOfThreeLeavesNoTriangle() {
+        int[][] orders = {{0, 1, 2}, {0, 2, 1}, {1, 0, 2}, {1, 2, 0}, {2, 0, 1}, {2, 1, 0}};
+        for (int[] o : orders) {
+            StarTracker x = doubled(0);
+            for (int i : o) x.add(1, x.at(0, i, 0), x.at(0, i, 1), x.at(0, i, 2));
+            x.set(Edge.TOLERANCE, 0);
+            Edge.due("all three are confirmed", x.count(3), 3);
+            Edge.due("which", x.spare(0), 0);
+            Edge.due("how many", x.spare(1), 0);
+        }
+    }
+
+    @Edge.Says("by which most of the others are CONFIRMED, of like ones the least.")
+    static void spareIsByToleranceAsItIs() {
+        // The triangle of the others has sides 900, 1601, 2501.
+        StarTracker x = doubled(0);
+        x.add(1, -70, -70, 70);
+        x.add(1, 1, 1, 1);
+        x.add(1, 31, 1, 1);
+        x.add(1, 1, 41, 2);
+        int[][] due = {{0, 0}, {1, 3}, {2, 3}, {0, 0}, {98, 3}};
+        for (int[] d : due) {
+            x.set(Edge.TOLERANCE, d[0]);
+            Edge.due("which by " + d[0], x.spare(0), 0);
+            Edge.due("how many by " + d[0], x.spare(1), d[1]);
         }
     }
 
