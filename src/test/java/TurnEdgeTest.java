@@ -464,6 +464,21 @@ public final class TurnEdgeTest {
         }
     }
 
+    @Edge.Says("BETTER: TOLERANCE 0, 50, 100 .. 1000, in place of what it is, by which most are CONFIRMED, of like ones the least.")
+    static void betterIsAskedAnew() {
+        StarTracker x = Edge.with(Edge.star(1, 1, 1), Edge.star(11, 1, 1), Edge.star(1, 21, 1));
+        x.see(3, 0, 0, 0, 0, 0);
+        Edge.due("all by 0", x.better(0), 0);
+        Edge.due("all by 0", x.better(1), 3);
+        x.back(1);
+        x.add(1, 90, 90, 90);
+        Edge.due("no match is left over", x.better(0), 0);
+        Edge.due("no match is left over", x.better(1), 0);
+        x.back(1);
+        x.add(1, 1, 21, 1);
+        Edge.due("all by 0 again", x.better(1), 3);
+    }
+
     @Edge.Says("BETTER: which TOLERANCE (what = 0), how many are CONFIRMED then (1). BAD.")
     static void betterOfNothing() {
         for (StarTracker x : new StarTracker[] {new StarTracker(), Edge.sky(), Edge.with(Edge.spot(1, 2, 3))}) {
