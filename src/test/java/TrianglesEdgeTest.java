@@ -373,6 +373,21 @@ public final class TrianglesEdgeTest {
         isTaken(x, 2, 1, 2);
     }
 
+    @Edge.Says("TAKEN are pairs")
+    static void starsBehindTheNumberOfSpotsAreTakenToo() {
+        StarTracker x = Edge.sky();
+        int[][] last = {{-90, 17, -8}, {23, -61, 77}, {-15, -97, -42}, {64, 38, 59}};
+        for (int[] d : last) x.add(Edge.STAR, d[0], d[1], d[2]);
+        x.set(Edge.TOLERANCE, 0);
+        // Four spots of stars 11, 10, 9, 8, then one undone after the other: fewer spots than any star's number.
+        for (int i = 3; i >= 0; i--) x.add(Edge.SPOT, last[i][0], last[i][1], last[i][2]);
+        for (int spots = 4; spots >= 3; spots--) {
+            Edge.due("all of " + spots, x.count(2), spots);
+            for (int p = 0; p < spots; p++) isTaken(x, p, 11 - p, p);
+            x.back(Edge.SPOT);
+        }
+    }
+
     @Edge.Says("LEAST (1 to 99; 1 at first) at least")
     static void pairsBelowLeastAreNotTaken() {
         StarTracker x = unevenBy(0, 2, 1);
